@@ -16,10 +16,25 @@ final class Check {
         void run();
     }
 
+    /** Runs one test and prints its name; a test that throws has failed, and the others still run. */
+    static void test(String name, Call call) {
+        int before = wrong;
+        try {
+            call.run();
+        } catch (RuntimeException | StackOverflowError e) {
+            fault("it threw " + e);
+        }
+        System.out.println((wrong == before ? "passed: " : "FAILED: ") + name);
+    }
+
+    static void fault(String what) {
+        wrong++;
+        System.out.println("    " + what);
+    }
+
     static void same(String what, long got, long due) {
         if (got != due) {
-            wrong++;
-            System.out.println(what + " answered " + got + ", due is " + due);
+            fault(what + " answered " + got + ", due is " + due);
         }
     }
 
@@ -29,9 +44,20 @@ final class Check {
 
     static void same(String what, String got, String due) {
         if (!got.equals(due)) {
-            wrong++;
-            System.out.println(what + " is " + got + ", due is " + due);
+            fault(what + " is " + got + ", due is " + due);
         }
+    }
+
+    /** Blocks 0, 1 .. are as due, and those behind the last one that is told are FREE. */
+    static void blocks(String what, GuessingHeap x, int... due) {
+        for (int b = 0; b < 16; b++) {
+            same(what + ": block(" + b + ")", x.block(b), b < due.length ? due[b] : 0);
+        }
+    }
+
+    static void counts(String what, GuessingHeap x, int objects, int collections) {
+        same(what + ": objects()", x.objects(), objects);
+        same(what + ": collections()", x.collections(), collections);
     }
 
     static void throwsKind(String what, Call call, int due) {

@@ -25,13 +25,17 @@ public final class FaceTest {
 
     public static void main(String[] args) {
         Class<?> c = GuessingHeap.class;
+        Check.test("The public face: a public final class, NONE", () -> head(c));
+        Check.test("The public face: the methods, and no others that are not private", () -> methods(c));
+        Check.test("The public face: no field but NONE that is not private", () -> fields(c));
+        Check.test("The public face: one constructor", () -> constructors(c));
+        Check.end();
+    }
+
+    private static void head(Class<?> c) {
         Check.same("the class is public", Modifier.isPublic(c.getModifiers()), true);
         Check.same("the class is final", Modifier.isFinal(c.getModifiers()), true);
         Check.same("NONE", GuessingHeap.NONE, -1);
-        methods(c);
-        fields(c);
-        constructors(c);
-        Check.end();
     }
 
     private static void methods(Class<?> c) {

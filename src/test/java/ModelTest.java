@@ -29,10 +29,14 @@ public final class ModelTest {
     }
 
     public static void main(String[] args) {
+        Check.test("All promises: " + RUNS + " runs of " + CALLS + " calls against the model", ModelTest::playAll);
+        Check.end();
+    }
+
+    private static void playAll() {
         for (int run = 0; run < RUNS && Check.wrongs() == 0; run++) {
             new ModelTest(run).play();
         }
-        Check.end();
     }
 
     private void play() {
