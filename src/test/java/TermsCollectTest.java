@@ -30,6 +30,8 @@ public final class TermsCollectTest {
         s.test(SPLIT, "a full heap of 256 objects", TermsCollectTest::allSplitBecomeFree);
         s.test(NO_DOUBT, "by words of objects that are given up too", TermsCollectTest::noDoubtByThoseGivenUp);
         s.test(NO_DOUBT, "by words of silent objects", TermsCollectTest::noDoubtBySilentOnes);
+        s.test(NO_DOUBT, "by a word to an EMPTY slot: allocate() takes the block without force",
+                TermsCollectTest::noDoubtByEmptySlots);
         s.end();
         Check.end();
     }
@@ -297,5 +299,20 @@ public final class TermsCollectTest {
         Check.blocks("when they become FREE", x, 4);
         x.collect();
         Check.blocks("when they are FREE", x, 4);
+    }
+
+    private static void noDoubtByEmptySlots() {
+        GuessingHeap x = new GuessingHeap();
+        x.allocate(2, false);
+        int[] kept = {96, 128, 128, 96};
+        for (int r = 0; r < kept.length; r++) {
+            x.root(r, x.allocate(kept[r], false));
+        }
+        x.allocate(32, false);
+        x.root(7, 4098);
+        // Block 15 becomes FREE too, and would be the room if block 0 were doubtful.
+        Check.same("allocate(4)", x.allocate(4, false), 4096);
+        Check.blocks("taken", x, 4, 32, 33, 33, 32, 33, 33, 33, 32, 33, 33, 33, 32, 33, 33, 0);
+        Check.counts("taken", x, 5, 1);
     }
 }

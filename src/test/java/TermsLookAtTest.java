@@ -19,6 +19,7 @@ public final class TermsLookAtTest {
         s.test(NOTHING, "a word to an EMPTY slot of a SPLIT block", TermsLookAtTest::emptySlot);
         s.test(NOTHING, "a word to an EMPTY slot of a block that this collection makes FREE",
                 TermsLookAtTest::emptySlotOfABlockThatBecomesFree);
+        s.test(NOTHING, "the same by a word of an object that is marked", TermsLookAtTest::emptySlotByAnObject);
         s.end();
         Check.end();
     }
@@ -132,12 +133,29 @@ public final class TermsLookAtTest {
     }
 
     private static void emptySlotOfABlockThatBecomesFree() {
+        for (int size : Heaps.SLOTS) {
+            for (int word : new int[] {4096 + size, 4127}) {
+                GuessingHeap x = new GuessingHeap();
+                x.allocate(size, false);
+                x.root(0, word);
+                String told = "slots of " + size + ", word " + word;
+                Check.same(told + ": collect()", x.collect(), 1);
+                Check.blocks(told + ", when it becomes FREE", x);
+                x.collect();
+                Check.blocks(told + ", when it is FREE already", x, 64);
+            }
+        }
+    }
+
+    private static void emptySlotByAnObject() {
         GuessingHeap x = new GuessingHeap();
-        x.allocate(2, false);
-        x.root(0, 4098);
+        x.allocate(4, false);
+        x.allocate(64, false);
+        x.root(0, 4128);
+        x.write(4191, 4100);
         Check.same("collect()", x.collect(), 1);
-        Check.blocks("when it becomes FREE", x);
+        Check.blocks("when it becomes FREE", x, 0, 32, 33);
         x.collect();
-        Check.blocks("when it is FREE already", x, 64);
+        Check.blocks("when it is FREE already", x, 64, 32, 33);
     }
 }
